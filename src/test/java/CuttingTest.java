@@ -11,6 +11,7 @@ final class CuttingTest {
         workForBoth();
         wrongInputs();
         whatIsOwed();
+        owedInTheLastYear();
         CHECKS.close();
     }
 
@@ -67,6 +68,7 @@ final class CuttingTest {
             CHECKS.due("rest " + rest + " is over", x.cut(0, 0, 0, 1), 0);
             CHECKS.due("the year of the cutting", x.look(0, 0, 1), rest + 1);
         }
+        restFromALaterYear();
         KelpShores first = Checks.withShores(1);
         first.rock(0, 9, 1000);
         Checks.tell(first, "shore 0 family 0 from 0 to 99 share 0");
@@ -75,6 +77,19 @@ final class CuttingTest {
         CHECKS.due("rest is 2 at first", first.cut(0, 0, 0, 1), 3);
         Checks.tell(first, "shore 0 family 0 from 0 to 99 share 0; rest 1");
         CHECKS.due("rest as the rights tell now", first.cut(0, 0, 0, 1), 0);
+    }
+
+    private static void restFromALaterYear() {
+        KelpShores x = Checks.withShores(1);
+        x.rock(0, 9, 1000);
+        Checks.tell(x, "shore 0 family 0 from 0 to 99 share 0; rest 1");
+        Checks.days(x, 199);
+        CHECKS.due("cut in year 1", x.cut(0, 0, 0, 1), 0);
+        Checks.days(x, 100);
+        CHECKS.due("rest in year 2", x.cut(0, 0, 0, 1), 3);
+        Checks.days(x, 1);
+        CHECKS.due("cut in year 3", x.cut(0, 0, 0, 1), 0);
+        CHECKS.due("the latest year", x.look(0, 0, 1), 3);
     }
 
     private static void twoCuttingsOfADay() {
@@ -112,6 +127,13 @@ final class CuttingTest {
         CHECKS.due("gathered again", x.gather(0, 0, 10), 0);
         CHECKS.due("all is gathered", x.cast(0), 0);
         CHECKS.due("none is left", x.gather(0, 0, 1), 4);
+        Checks.tell(x, "shore 0 family 0 from 7 to 8 share 100");
+        x.day(9, 0, 0, 9);
+        CHECKS.due("day 2", x.gather(0, 0, 5), 1);
+        Checks.days(x, 105);
+        CHECKS.due("day 107", x.gather(0, 0, 5), 0);
+        CHECKS.due("owed in the next year", x.owes(0, 0, 1), 5);
+        CHECKS.due("owed in the year ahead", x.owes(0, 0, 0), 3);
     }
 
     private static void workForBoth() {
@@ -181,5 +203,19 @@ final class CuttingTest {
         CHECKS.noIndex("owes for shore -1", () -> x.owes(3, -1, 100));
         CHECKS.noIndex("family 8 owes", () -> x.owes(8, 0, 0));
         CHECKS.noIndex("family -1 owes", () -> x.owes(-1, 0, 0));
+    }
+
+    /** More calls than the document counts: the rows of all its years are there too. */
+    private static void owedInTheLastYear() {
+        KelpShores x = Checks.withShores(6);
+        x.rock(5, 9, 1000);
+        Checks.tell(x, "shore 5 family 7 from 0 to 99 share 50; rest 0");
+        Checks.days(x, 9850);
+        CHECKS.due("cut in year 98", x.cut(5, 0, 7, 10), 0);
+        Checks.days(x, 149);
+        CHECKS.due("cut on the last day", x.cut(5, 0, 7, 20), 0);
+        CHECKS.due("owed in year 98", x.owes(7, 5, 98), 5);
+        CHECKS.due("owed in year 99", x.owes(7, 5, 99), 10);
+        CHECKS.due("year 100", x.owes(7, 5, 100), 0);
     }
 }

@@ -52,6 +52,12 @@ final class DaysTest {
         CHECKS.due("all that grew", x.look(0, 0, 2), 145);
         Checks.days(x, 100);
         CHECKS.due("a quarter of 56", x.look(0, 0, 0), 59);
+        for (int missing = 1; missing <= 8; missing++) {
+            KelpShores some = withWeed(50);
+            some.cut(0, 0, 0, missing);
+            Checks.days(some, 100);
+            CHECKS.due("a quarter of " + missing, some.look(0, 0, 0), 50 - missing + (missing > 4 ? 2 : 1));
+        }
         KelpShores full = withWeed(7);
         Checks.days(full, 100);
         CHECKS.due("a full rock does not grow", full.look(0, 0, 2), 7);
@@ -103,6 +109,16 @@ final class DaysTest {
         CHECKS.due("not lost", x.has(0, 5), 0);
         CHECKS.due("wet stays", x.has(0, 0), 12);
         CHECKS.due("another family", x.has(1, 4), 0);
+        for (int cut = 1; cut <= 100; cut++) {
+            KelpShores some = withWeed(1000);
+            some.cut(0, 0, 0, cut);
+            some.day(0, 9, 0, 0);
+            int had = some.has(0, 1);
+            int tenth = had == 0 ? 0 : had <= 10 ? 1 : had <= 20 ? 2 : 3;
+            some.day(0, 0, 5, 0);
+            CHECKS.due("a tenth of " + had, some.has(0, 4), tenth);
+            CHECKS.due("what is left of " + had, some.has(0, 1), had - tenth);
+        }
     }
 
     private static void windDries() {

@@ -75,6 +75,7 @@ final class PitsTest {
         CHECKS.due("two days", x.burns(0), 2);
         x.day(0, 0, 0, 0);
         CHECKS.due("one day", x.burns(0), 1);
+        CHECKS.due("it burns on its last day too", x.light(0, 20), false);
         CHECKS.due("no ash yet", x.has(0, 2), 0);
         x.day(0, 0, 2, 0);
         CHECKS.due("empty", x.burns(0), 0);

@@ -132,6 +132,8 @@ final class RightsTest {
         Checks.tell(x, "shore 0 family 1 from 2 to 3 share 4");
         CHECKS.due("rest as at first", x.count(7), 2);
         CHECKS.due("a new right", x.may(0, 1, 2), true);
+        CHECKS.due("none of the first text", x.may(0, 7, 9), false);
+        CHECKS.due("one right alone", x.count(8), 1);
     }
 
     private static void wrongTextLeavesAll() {

@@ -8,6 +8,7 @@ final class TapeTest {
         feedHasAnEnd();
         endCuts();
         bytesComeHighestFirst();
+        bytesCutOffAreGone();
         CHECKS.close();
     }
 
@@ -85,5 +86,28 @@ final class TapeTest {
         x.feed(0x72657374, 0x80ffffff, 0, 0, 0);
         CHECKS.noArgument("bytes above 127", x::rights);
         CHECKS.due("a byte above 127", x.fault(), 4);
+    }
+
+    private static void bytesCutOffAreGone() {
+        KelpShores x = new KelpShores();
+        x.feed(0x72657374, 0x31323334, 0, 0, 0);
+        x.end(5);
+        CHECKS.due("'rest1', with digits cut off", x.rights(), 1);
+        CHECKS.due("its rest", x.count(7), 1);
+        x.feed(0x72657374, 0x37372020, 0, 0, 0);
+        x.end(4);
+        CHECKS.noArgument("'rest', with a number cut off", x::rights);
+        CHECKS.due("the text's length", x.fault(), 4);
+        x.feed(0x72657374, 0x373b7878, 0, 0, 0);
+        x.end(5);
+        CHECKS.due("'rest7', with ';xx' cut off", x.rights(), 1);
+        x.feed(0x72657374, 0x78782020, 0, 0, 0);
+        x.end(4);
+        CHECKS.noArgument("'rest', with letters cut off", x::rights);
+        CHECKS.due("the text's length again", x.fault(), 4);
+        x.feed(0x20202020, 0x20202020, 0, 0, 0);
+        x.end(3);
+        CHECKS.noArgument("blanks, with blanks cut off", x::rights);
+        CHECKS.due("the length of blanks", x.fault(), 3);
     }
 }
