@@ -95,16 +95,16 @@ public final class KelpShores {
     }
 
     public int rights() throws IllegalArgumentException {
-        boolean right = tape.readsRights(spareRights, shoreCount);
+        int parts = tape.partsRead(spareRights, shoreCount);
         tape.length = 0;
-        wrongByte = right ? NONE : tape.at;
-        if (!right) {
+        wrongByte = parts == NONE ? tape.at : NONE;
+        if (parts == NONE) {
             throw new IllegalArgumentException("the text of the rights is wrong");
         }
         Rights told = spareRights;
         spareRights = rights;
         rights = told;
-        return tape.parts;
+        return parts;
     }
 
     public int fault() {
@@ -568,7 +568,6 @@ public final class KelpShores {
         private final int[] bytes = new int[TAPE_ROOM];
         private int length;
         private int at;
-        private int parts;
 
         void putNumber(int number) {
             for (int shift = 24; shift >= 0 && length < bytes.length; shift -= 8) {
@@ -577,23 +576,24 @@ public final class KelpShores {
             }
         }
 
-        boolean readsRights(Rights told, int shores) {
+        /** How many parts were read; NONE if the text is wrong. */
+        int partsRead(Rights told, int shores) {
             told.forgetAll();
             at = 0;
-            for (parts = 1; parts <= TAPE_ROOM; parts++) {
+            for (int parts = 1; parts <= TAPE_ROOM; parts++) {
                 if (!readsPart(told, shores)) {
-                    return false;
+                    return NONE;
                 }
                 skipBlanks();
                 if (at >= length) {
-                    return true;
+                    return parts;
                 }
                 if (byteAt(at) != ';') {
-                    return false;
+                    return NONE;
                 }
                 at++;
             }
-            return false;
+            return NONE;
         }
 
         private boolean readsPart(Rights told, int shores) {

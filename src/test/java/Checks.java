@@ -1,4 +1,4 @@
-import java.nio.charset.StandardCharsets;
+import java.util.NoSuchElementException;
 
 /** Compares answers with those that are due, and ends the test with 1 if one was another. */
 final class Checks {
@@ -6,30 +6,50 @@ final class Checks {
         void run();
     }
 
+    private String sentence = "";
+    private int sentences;
     private int right;
     private int wrong;
 
-    void due(String what, long got, long want) {
-        if (got == want) {
-            right++;
-        } else {
-            wrong++;
-            System.out.println(what + " answered " + got + ", due is " + want);
+    /**
+     * One sentence of the document with a test of its own. It must compare two answers at least, for a
+     * bound has two sides; what it throws is its own fault alone, so that the other sentences are tested.
+     */
+    void sentence(String words, Call test) {
+        sentence = words;
+        sentences++;
+        int before = right + wrong;
+        try {
+            test.run();
+        } catch (RuntimeException e) {
+            fail("the test was thrown out by " + e + " at " + e.getStackTrace()[0]);
         }
+        if (right + wrong - before < 2) {
+            fail("both sides are not compared");
+        }
+        sentence = "";
+    }
+
+    void due(String what, long got, long want) {
+        compare(what, got == want, got, want);
     }
 
     void due(String what, boolean got, boolean want) {
-        due(what, got ? 1 : 0, want ? 1 : 0);
+        compare(what, got == want, got, want);
+    }
+
+    void due(String what, String got, String want) {
+        compare(what, got.equals(want), got, want);
     }
 
     void dueThrow(String what, Class<? extends RuntimeException> want, Call call) {
         Class<?> got = thrownBy(call);
-        if (got == want) {
-            right++;
-        } else {
-            wrong++;
-            System.out.println(what + " threw " + got + ", due is " + want);
-        }
+        compare(what, got == want, got, want);
+    }
+
+    void noThrow(String what, Call call) {
+        Class<?> got = thrownBy(call);
+        compare(what, got == null, got, "nothing thrown");
     }
 
     void noIndex(String what, Call call) {
@@ -41,7 +61,7 @@ final class Checks {
     }
 
     void noElement(String what, Call call) {
-        dueThrow(what, java.util.NoSuchElementException.class, call);
+        dueThrow(what, NoSuchElementException.class, call);
     }
 
     void noMore(String what, Call call) {
@@ -49,7 +69,8 @@ final class Checks {
     }
 
     void close() {
-        System.out.println(right + " answers as due, " + wrong + " not");
+        System.out.println((sentences == 0 ? "" : sentences + " sentences, ")
+                + right + " answers as due, " + wrong + " not");
         if (wrong != 0 || right == 0) {
             System.exit(1);
         }
@@ -64,42 +85,16 @@ final class Checks {
         }
     }
 
-    /** Puts a text of at most 400 bytes, one for each sign, on an empty tape. */
-    static void feedText(KelpShores x, String text) {
-        byte[] bytes = text.getBytes(StandardCharsets.ISO_8859_1);
-        for (int from = 0; from < bytes.length; from += 20) {
-            x.feed(word(bytes, from), word(bytes, from + 4), word(bytes, from + 8),
-                    word(bytes, from + 12), word(bytes, from + 16));
-        }
-        if (!x.end(bytes.length)) {
-            throw new AssertionError("the text does not fit on the tape");
+    private void compare(String what, boolean same, Object got, Object want) {
+        if (same) {
+            right++;
+        } else {
+            fail(what + " answered " + got + ", due is " + want);
         }
     }
 
-    static int tell(KelpShores x, String text) {
-        feedText(x, text);
-        return x.rights();
-    }
-
-    static KelpShores withShores(int many) {
-        KelpShores x = new KelpShores();
-        for (int i = 0; i < many; i++) {
-            x.shore();
-        }
-        return x;
-    }
-
-    static void days(KelpShores x, int many) {
-        for (int i = 0; i < many; i++) {
-            x.day(0, 0, 0, 0);
-        }
-    }
-
-    private static int word(byte[] bytes, int from) {
-        int number = 0;
-        for (int i = from; i < from + 4; i++) {
-            number = number << 8 | (i < bytes.length ? bytes[i] & 255 : 0);
-        }
-        return number;
+    private void fail(String message) {
+        wrong++;
+        System.out.println((sentence.isEmpty() ? "" : "\"" + sentence + "\": ") + message);
     }
 }

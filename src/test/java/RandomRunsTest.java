@@ -159,7 +159,11 @@ final class RandomRunsTest {
         return new Object[] {a, b};
     }
 
+    /** A step has more calls than one: those behind the last that the document counts are left out. */
     private void call(String name, Object... args) throws ReflectiveOperationException {
+        if (calls >= CALLS) {
+            return;
+        }
         calls++;
         Object[] fitting = name.equals("undo") ? new Object[] {args[0]} : args;
         String got = answer(real, name, fitting);
