@@ -355,8 +355,8 @@ final class CuttingTest {
 
     private static void theFirstPart() {
         KelpShores x = Scenes.withShores(2);
-        x.rock(0, 9, 1000);
-        x.rock(1, 9, 1000);
+        x.rock(0, 0, 1000);
+        x.rock(1, 0, 1000);
         x.hands(FAMILY, 20);
         Scenes.tell(x, "rest 0;" + Scenes.right(0, FAMILY, 50, 99, 1) + ";" + Scenes.allYear(1, FAMILY, 100) + ";"
                 + Scenes.allYear(0, FAMILY + 1, 70) + ";" + Scenes.allYear(0, FAMILY, 33) + ";"
@@ -368,6 +368,12 @@ final class CuttingTest {
         Scenes.days(x, 150);
         CHECKS.due("cut 100 on day 150", x.cut(0, 0, FAMILY, 100), 0);
         CHECKS.due("by the first part of all", x.owes(FAMILY, 0, 1), 1);
+        x.day(0, 0, 0, 9);
+        CHECKS.due("gather 50 on day 151", x.gather(1, FAMILY, 50), 0);
+        CHECKS.due("by its shore's part", x.owes(FAMILY, 1, 1), 50);
+        Scenes.days(x, 49);
+        CHECKS.due("gather 10 on day 200", x.gather(0, FAMILY, 10), 0);
+        CHECKS.due("by the first part for that day again", x.owes(FAMILY, 0, 2), 3);
     }
 
     private static void rowsOfTheOwed() {

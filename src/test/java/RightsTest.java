@@ -81,6 +81,7 @@ final class RightsTest {
         CHECKS.due("none comes", x.may(0, 1, 1), false);
         CHECKS.due("two texts later", Scenes.tell(x, "rest 1"), 1);
         CHECKS.due("nothing of the wrong text", x.may(0, 1, 1), false);
+        CHECKS.due("where the text ahead was wrong", InUse.made().fault(), InUse.FAULT);
         InUse.isLeftBy(CHECKS, "a wrong text", used -> used.end(0), used -> Scenes.tell(used, "rest 21"));
     }
 
@@ -205,6 +206,7 @@ final class RightsTest {
         isWrong("resT 1", 0);
         isWrong("res t 1", 0);
         isWrong("shorefamily 1", 0);
+        isWrong("rest 1;restrest 2", 7);
         isWrong("shore 0 familyfrom 1", 8);
     }
 

@@ -146,28 +146,34 @@ final class StoreTest {
         int[] right = {0, 99};
         for (int many = 3; many <= 5; many++) {
             for (int place = 0; place < 5; place++) {
-                for (int test : wrong) {
-                    int[] t = {50, 50, 50, 50, 50};
-                    t[place] = test;
-                    int tests = many;
-                    if (place < many) {
-                        CHECKS.noArgument("test " + place + " of " + many + ": " + test,
-                                () -> x.sell(FAMILY, 1, tests, t[0], t[1], t[2], t[3], t[4]));
-                    } else {
-                        CHECKS.noThrow("test " + place + " of " + many + ": " + test,
-                                () -> x.sell(FAMILY, 1, tests, t[0], t[1], t[2], t[3], t[4]));
-                    }
-                }
                 for (int test : right) {
-                    int[] t = {50, 50, 50, 50, 50};
-                    t[place] = test;
-                    int tests = many;
-                    CHECKS.noThrow("test " + place + " of " + many + ": " + test,
-                            () -> x.sell(FAMILY, 1, tests, t[0], t[1], t[2], t[3], t[4]));
+                    aTestIsOne(x, many, place, test);
+                }
+                for (int test : wrong) {
+                    if (place < many) {
+                        aTestIsNone(x, many, place, test);
+                    } else {
+                        aTestIsOne(x, many, place, test);
+                    }
                 }
             }
         }
         CHECKS.noArgument("a wrong test of no ash", () -> x.sell(0, 1, 3, 1, 1, 100, 1, 1));
+    }
+
+    private static void aTestIsNone(KelpShores x, int many, int place, int test) {
+        CHECKS.noArgument("test " + place + " of " + many + ": " + test, () -> sellWith(x, many, place, test));
+    }
+
+    private static void aTestIsOne(KelpShores x, int many, int place, int test) {
+        int lots = x.count(4);
+        CHECKS.due("test " + place + " of " + many + ": " + test, sellWith(x, many, place, test), lots);
+    }
+
+    private static int sellWith(KelpShores x, int many, int place, int test) {
+        int[] tests = {50, 50, 50, 50, 50};
+        tests[place] = test;
+        return sellOne(x, many, tests);
     }
 
     /** Each order of the tests is sold by an object of its own, for there are more orders than lots. */
