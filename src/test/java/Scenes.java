@@ -1,5 +1,3 @@
-import java.nio.charset.StandardCharsets;
-
 /** Objects as a test needs them at its begin, each made with far fewer than 512 calls. */
 final class Scenes {
     static final int[] FAR = {Integer.MIN_VALUE, Integer.MAX_VALUE};
@@ -86,21 +84,17 @@ final class Scenes {
 
     /** Puts a text of at most 400 bytes, one for each sign, on an empty tape. */
     static void feedText(KelpShores x, String text) {
-        byte[] bytes = text.getBytes(StandardCharsets.ISO_8859_1);
-        for (int from = 0; from < bytes.length; from += 20) {
-            x.feed(number(bytes, from), number(bytes, from + 4), number(bytes, from + 8),
-                    number(bytes, from + 12), number(bytes, from + 16));
+        for (int from = 0; from < text.length(); from += 20) {
+            int[] numbers = new int[5];
+            for (int i = from; i < from + 20; i++) {
+                int sign = i < text.length() ? text.charAt(i) & 255 : 0;
+                int place = (i - from) / 4;
+                numbers[place] = numbers[place] << 8 | sign;
+            }
+            x.feed(numbers[0], numbers[1], numbers[2], numbers[3], numbers[4]);
         }
-        if (!x.end(bytes.length)) {
-            throw new AssertionError("the text does not fit on the tape");
+        if (!x.end(text.length())) {
+            throw new IllegalStateException("the text does not fit on the tape");
         }
-    }
-
-    private static int number(byte[] bytes, int from) {
-        int number = 0;
-        for (int i = from; i < from + 4; i++) {
-            number = number << 8 | (i < bytes.length ? bytes[i] & 255 : 0);
-        }
-        return number;
     }
 }
